@@ -115,7 +115,7 @@ public final class PrefixBench {
     }
 
     public int hop(int address, int flow) {
-        long set = hops(address);
+        long set = hopsAt(placeOfLongest(address, LONGEST + 1));
         int size = Long.bitCount(set);
         if (size <= 0) {
             return NONE;
@@ -249,7 +249,8 @@ public final class PrefixBench {
     private int firstFrom(long key) {
         int low = 0;
         int high = count;
-        while (low < high) {
+        // Each step halves what is left, so far fewer steps than there are places find it.
+        for (int step = 0; step < MOST_PLACES && low < high; step++) {
             int middle = (low + high) >>> 1;
             if (keyAt(middle) < key) {
                 low = middle + 1;

@@ -6,7 +6,7 @@ import java.util.Set;
 import java.util.TreeSet;
 
 /** The class shows the document's face and nothing else (LANGUAGE.md, rules 1 and 5). */
-public final class FaceTest {
+public final class FaceTest extends Checks {
     private static final Set<String> FACE = Set.of(
             "int put(int,int,int,int,long) IllegalArgumentException IllegalStateException",
             "boolean take(int,int,int) IllegalArgumentException",
@@ -23,8 +23,6 @@ public final class FaceTest {
             "int known()",
             "int nodes()");
 
-    private static int wrong = 0;
-
     public static void main(String[] args) throws Exception {
         int modifiers = PrefixBench.class.getModifiers();
         holds("the class is public and final", Modifier.isPublic(modifiers) && Modifier.isFinal(modifiers));
@@ -33,10 +31,7 @@ public final class FaceTest {
         Constructor<?>[] constructors = PrefixBench.class.getDeclaredConstructors();
         holds("there is one constructor, public and without arguments", constructors.length == 1
                 && Modifier.isPublic(constructors[0].getModifiers()) && constructors[0].getParameterCount() == 0);
-        System.out.println(wrong == 0 ? "FaceTest: the face is as due" : "FaceTest: " + wrong + " wrong");
-        if (wrong != 0) {
-            System.exit(1);
-        }
+        end("FaceTest");
     }
 
     private static void methods() {
@@ -86,9 +81,6 @@ public final class FaceTest {
     }
 
     private static void holds(String what, boolean so) {
-        if (!so) {
-            wrong++;
-            System.out.println("not so: " + what);
-        }
+        due(what, so, true);
     }
 }

@@ -1,14 +1,5 @@
 /** For each promise of the document: ordinary inputs, the edges that it names, and wrong inputs. */
-public final class PromiseTest {
-    private static final int LOW = Integer.MIN_VALUE;
-    private static final int HIGH = Integer.MAX_VALUE;
-
-    private static int wrong = 0;
-
-    private interface Call {
-        void make();
-    }
-
+public final class PromiseTest extends Checks {
     public static void main(String[] args) {
         newObject();
         put();
@@ -27,11 +18,7 @@ public final class PromiseTest {
         known();
         nodes();
         rowsAreUsedAgain();
-        System.out.println(wrong == 0 ? "PromiseTest: all answers are as due"
-                : "PromiseTest: " + wrong + " answers are not as due");
-        if (wrong != 0) {
-            System.exit(1);
-        }
+        end("PromiseTest");
     }
 
     // Promise 1
@@ -398,66 +385,6 @@ public final class PromiseTest {
             dueCounts("round " + round, table, 40, 40, 79);
             due("drop round " + round, table.drop(1), 40);
             dueCounts("behind round " + round, table, 0, 0, 0);
-        }
-    }
-
-    // What the tests are written with.
-
-    private static PrefixBench sample() {
-        PrefixBench table = new PrefixBench();
-        table.put(ip(10, 1, 2, 0), 24, 1, 10, 8);
-        table.put(-1, 32, 0, 1, 4);
-        table.put(ip(10, 1, 0, 0), 16, 5, 50, -1L);
-        table.put(ip(10, 0, 0, 0), 8, 1, 100, 3);
-        table.put(ip(10, 1, 4, 0), 24, 1, 10, 16);
-        table.put(ip(10, 1, 0, 0), 16, 2, 20, 6);
-        table.put(0, 0, 7, 9, 1);
-        return table;
-    }
-
-    private static int ip(int a, int b, int c, int d) {
-        return a << 24 | b << 16 | c << 8 | d;
-    }
-
-    private static long code(int address, int length) {
-        return 64L * Integer.toUnsignedLong(address) + length;
-    }
-
-    private static void due(String what, long got, long want) {
-        if (got != want) {
-            wrong++;
-            System.out.println(what + " answered " + got + ", due is " + want);
-        }
-    }
-
-    private static void due(String what, boolean got, boolean want) {
-        due(what, got ? 1L : 0L, want ? 1L : 0L);
-    }
-
-    private static void dueCounts(String what, PrefixBench table, int routes, int known, int nodes) {
-        due(what + ": routes()", table.routes(), routes);
-        due(what + ": known()", table.known(), known);
-        due(what + ": nodes()", table.nodes(), nodes);
-    }
-
-    private static void illegal(String what, Call call) {
-        throwsExactly(what, call, IllegalArgumentException.class);
-    }
-
-    private static void state(String what, Call call) {
-        throwsExactly(what, call, IllegalStateException.class);
-    }
-
-    private static void throwsExactly(String what, Call call, Class<?> want) {
-        Class<?> got = null;
-        try {
-            call.make();
-        } catch (RuntimeException e) {
-            got = e.getClass();
-        }
-        if (got != want) {
-            wrong++;
-            System.out.println(what + " threw " + got + ", due is " + want);
         }
     }
 }
